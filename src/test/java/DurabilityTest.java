@@ -1,0 +1,146 @@
+import java.util.ArrayList;
+import java.util.HashMap;
+import java.util.List;
+import java.util.Map;
+
+/**
+ * What the whole is for, without regard to how: whenever the store comes up, and whenever no
+ * transaction is live, its keys have the values that committed transactions wrote last.
+ */
+public final class DurabilityTest {
+    private static final int RUNS = 3000;
+    private static final int KEYS = 26;
+    private static final Due DUE = new Due("DurabilityTest");
+
+    private long seed;
+    private LogStore x;
+    private int begun;
+    private int calls;
+    private final Map<Integer, Integer> committed = new HashMap<>();
+    /** By transaction that is not known to be at its end: what it wrote. */
+    private final Map<Integer, Map<Integer, Integer>> written = new HashMap<>();
+    private final Map<Integer, int[]> asked = new HashMap<>();
+
+    public static void main(String[] args) {
+        DurabilityTest test = new DurabilityTest();
+        for (int run = 1; run <= RUNS; run++) {
+            DUE.promise("run " + run);
+            test.run(run);
+        }
+        DUE.end();
+    }
+
+    private int pick(int bound) {
+        seed = seed * 6364136223846793005L + 1442695040888963407L;
+        return (int) ((seed >>> 33) % bound);
+    }
+
+    private void run(int number) {
+        seed = number * 104729L;
+        x = new LogStore();
+        begun = 0;
+        calls = 0;
+        committed.clear();
+        written.clear();
+        asked.clear();
+        int crashes = 0;
+        // What comes after the last of these takes far less than the 212 calls that are left.
+        while (calls < 300) {
+            step();
+            if (crashes < 3 && pick(60) == 0) {
+                crashAndRestart();
+                crashes++;
+            }
+        }
+        crashAndRestart();
+    }
+
+    private void step() {
+        calls += 2;
+        int t = Math.max(1, begun - pick(5));
+        switch (pick(10)) {
+            case 0: case 1:
+                begun = Math.max(begun, x.begin());
+                break;
+            case 2:
+                x.read(t, pick(KEYS));
+                break;
+            case 3: case 4: case 5: case 6:
+                write(t, pick(KEYS), 1 + pick(1000));
+                break;
+            case 7:
+                x.commit(t);
+                break;
+            case 8:
+                if (pick(3) == 0) {
+                    x.abort(t);
+                } else {
+                    x.flush(pick(6));
+                }
+                break;
+            default:
+                if (pick(4) == 0) {
+                    x.checkpoint();
+                } else if (pick(2) == 0) {
+                    x.force();
+                }
+                break;
+        }
+        note();
+    }
+
+    private void write(int t, int key, int value) {
+        int answer = x.write(t, key, value);
+        if (answer == 0) {
+            written.computeIfAbsent(t, y -> new HashMap<>()).put(key, value);
+        } else if (answer == 1) {
+            asked.put(t, new int[] {key, value});
+        }
+    }
+
+    /** A write that waited counts once it was done; a transaction's writes count once it committed. */
+    private void note() {
+        for (int t : new ArrayList<>(asked.keySet())) {
+            calls++;
+            int outcome = x.outcome(t);
+            if (outcome == 0) {
+                int[] request = asked.remove(t);
+                written.computeIfAbsent(t, y -> new HashMap<>()).put(request[0], request[1]);
+            } else if (outcome == 3) {
+                asked.remove(t);
+            }
+        }
+        List<Integer> ended = new ArrayList<>();
+        for (int t : written.keySet()) {
+            calls++;
+            int state = x.state(t);
+            if (state == 4) {
+                committed.putAll(written.get(t));
+            }
+            if (state == 4 || state == 5) {
+                ended.add(t);
+            }
+        }
+        written.keySet().removeAll(ended);
+    }
+
+    private void crashAndRestart() {
+        x.crash(pick(2) == 0 ? 0 : pick(10));
+        if (pick(2) == 0) {
+            x.restart(1 + pick(30));
+            x.crash(pick(4));
+        }
+        for (int i = 0; i < 5 && !x.up(); i++) {
+            x.restart(100);
+        }
+        calls += 14;
+        asked.clear();
+        note();
+        DUE.is("up()", x.up(), true);
+        DUE.is("number of transactions in doubt", written.size(), 0);
+        for (int key = 0; key < KEYS; key++) {
+            calls++;
+            DUE.is("stored(" + key + ")", x.stored(key), committed.getOrDefault(key, 0));
+        }
+    }
+}
