@@ -12,6 +12,7 @@ public final class CrashTest {
         commitDecidesDoubt();
         checkpointNamesDirtyPages();
         checkpointOfCleanPages();
+        pagesOutsideTheTableAreLeft();
         lostCheckpointDoesNotCount();
         redoStopsAtWhatThePageHas();
         redoRepeatsTakingBack();
@@ -21,6 +22,8 @@ public final class CrashTest {
         crashInTheRedo();
         restartPutsPagesOut();
         lsnsAreUsedAgain();
+        theLsnOfALostClrIsUsedAgain();
+        theLongestLog();
         DUE.end();
     }
 
@@ -202,6 +205,39 @@ public final class CrashTest {
         DUE.is("count(0)", x.count(0), 12);
         DUE.is("place(0)", x.place(0), -1);
         DUE.is("after(-1)", x.after(-1), -1);
+    }
+
+    /** Page 1 is dirty from record 5 on; page 0 was flushed between that and the checkpoint. */
+    private static void pagesOutsideTheTableAreLeft() {
+        DUE.promise("11 restart, a record of a page that is not in the table");
+        LogStore x = withKeys(5);
+        x.write(1, 0, 1);
+        x.flush(0);
+        x.checkpoint();
+        x.commit(1);
+        DUE.is("crash(9)", x.crash(9), 8);
+        DUE.is("restart(100), FROM is 5", x.restart(100), 5);
+        DUE.is("page(0, 0)", x.page(0, 0), -1);
+        DUE.is("page(1, 0)", x.page(1, 0), 5);
+        DUE.promise("11 restart, a record before its page's LSN in the table");
+        x = withKeys(5);
+        x.write(1, 0, 1);
+        x.flush(0);
+        x.checkpoint();
+        x.write(1, 0, 2);
+        x.commit(1);
+        DUE.is("crash(9)", x.crash(9), 9);
+        DUE.is("restart(4), up to record 7", x.restart(4), 4);
+        DUE.is("page(0, 0)", x.page(0, 0), -1);
+        DUE.is("restart(1)", x.restart(1), 1);
+        DUE.is("page(0, 0)", x.page(0, 0), 8);
+        DUE.promise("11 restart, a record just before the checkpoint");
+        x = withKeys(1);
+        x.flush(0);
+        x.checkpoint();
+        DUE.is("crash(9)", x.crash(9), 2);
+        DUE.is("restart(100), the analysis and the undo", x.restart(100), 2);
+        DUE.is("place(0)", x.place(0), -1);
     }
 
     private static void lostCheckpointDoesNotCount() {
@@ -389,5 +425,77 @@ public final class CrashTest {
         DUE.is("state(1)", x.state(1), 5);
         DUE.is("state(2)", x.state(2), 4);
         DUE.is("after(-1)", x.after(-1), 7);
+    }
+
+    private static void theLsnOfALostClrIsUsedAgain() {
+        DUE.promise("10 crash, an UPDATE with the LSN of a CLR that was lost");
+        LogStore x = withKeys(1);
+        x.commit(1);
+        x.force();
+        x.begin();
+        x.write(2, 0, 1);
+        x.force();
+        x.abort(2);
+        DUE.is("crash(0), the CLR 4 is lost", x.crash(0), 3);
+        x.restart(100);
+        x.begin();
+        x.crash(0);
+        x.restart(3);
+        DUE.is("crash(0)", x.crash(0), 3);
+        DUE.is("restart(100), CLR 4 again", x.restart(100), 5);
+        x.force();
+        x.begin();
+        x.write(4, 0, 2);
+        x.abort(4);
+        DUE.is("crash(1), UPDATE 5 stays, CLR 6 is lost", x.crash(1), 5);
+        x.restart(5);
+        DUE.is("restart(100), it is repeated and taken back", x.restart(100), 2);
+        DUE.is("crash(0), CLR 6 is lost again", x.crash(0), 5);
+        DUE.is("restart(7)", x.restart(7), 7);
+        DUE.is("stored(0)", x.stored(0), 100);
+        DUE.is("crash(1)", x.crash(1), 6);
+        x.restart(100);
+        x.begin();
+        x.write(5, 0, 3);
+        x.abort(5);
+        DUE.is("count(0)", x.count(0), 8);
+        DUE.is("crash(0), UPDATE 7 and CLR 8 are lost", x.crash(0), 6);
+        x.restart(100);
+        x.begin();
+        x.commit(6);
+        x.begin();
+        DUE.is("write(7, 0, 4), UPDATE 8", x.write(7, 0, 4), 0);
+        DUE.is("page(0, 1)", x.page(0, 1), 8);
+        DUE.is("abort(7)", x.abort(7), true);
+        DUE.is("count(0), it was open", x.count(0), 9);
+        DUE.is("stored(0)", x.stored(0), 100);
+    }
+
+    /** 60 UPDATEs, as many CLRs, the COMMITs of all others, 20 CHECKPOINTs. */
+    private static void theLongestLog() {
+        DUE.promise("11 restart, the longest log");
+        LogStore x = new LogStore();
+        for (int lsn = 1; lsn <= 20; lsn++) {
+            DUE.is("checkpoint()", x.checkpoint(), lsn);
+        }
+        for (int t = 1; t <= 59; t++) {
+            DUE.is("begin()", x.begin(), t);
+            DUE.is("commit(" + t + ")", x.commit(t), true);
+            x.force();
+        }
+        DUE.is("begin()", x.begin(), 60);
+        for (int i = 1; i <= 60; i++) {
+            DUE.is("write(60, 1, " + i + ")", x.write(60, 1, i), 0);
+        }
+        DUE.is("abort(60)", x.abort(60), true);
+        DUE.is("count(0)", x.count(0), 199);
+        DUE.is("crash(130)", x.crash(130), 199);
+        DUE.is("restart(100)", x.restart(100), 100);
+        DUE.is("restart(100)", x.restart(100), 21);
+        DUE.is("up()", x.up(), true);
+        DUE.is("count(0)", x.count(0), 199);
+        DUE.is("state(59)", x.state(59), 4);
+        DUE.is("state(60)", x.state(60), 5);
+        DUE.is("place(1)", x.place(1), -1);
     }
 }

@@ -21,6 +21,7 @@ public final class RequestsTest {
         noRoomForUpdates();
         noRoomAfterAWait();
         commitByAnEvictionSettles();
+        locksEndWithTheirTransaction();
         DUE.end();
     }
 
@@ -394,5 +395,46 @@ public final class RequestsTest {
         DUE.is("value(3)", x.value(3), 2);
         DUE.is("page(3, 0), fetched again for 3", x.page(3, 0), 0);
         DUE.is("page(0, 0)", x.page(0, 0), -1);
+    }
+
+    private static void locksEndWithTheirTransaction() {
+        DUE.promise("6 abort, locks are gone for those that begin later");
+        LogStore x = withTransactions(1);
+        x.write(1, 1, 1);
+        x.abort(1);
+        x.begin();
+        x.begin();
+        DUE.is("write(3, 1, 3)", x.write(3, 1, 3), 0);
+        DUE.is("write(2, 1, 2)", x.write(2, 1, 2), 1);
+        DUE.promise("5 commit, likewise");
+        x = withTransactions(1);
+        x.write(1, 1, 1);
+        x.read(1, 2);
+        x.commit(1);
+        x.force();
+        x.begin();
+        x.begin();
+        DUE.is("write(3, 1, 3)", x.write(3, 1, 3), 0);
+        DUE.is("write(3, 2, 3)", x.write(3, 2, 3), 0);
+        DUE.is("read(2, 2)", x.read(2, 2), 1);
+        DUE.promise("10 crash, likewise");
+        x.crash(0);
+        x.restart(100);
+        for (int t = 4; t <= 7; t++) {
+            DUE.is("begin()", x.begin(), t);
+            DUE.is("read(" + t + ", 1)", x.read(t, 1), 0);
+        }
+        DUE.is("write(7, 2, 7)", x.write(7, 2, 7), 0);
+        DUE.is("write(4, 1, 4), others read", x.write(4, 1, 4), 1);
+        DUE.promise("4 write, victim, likewise");
+        x = withTransactions(2);
+        x.write(1, 1, 1);
+        x.write(2, 2, 2);
+        x.read(1, 2);
+        DUE.is("read(2, 1)", x.read(2, 1), 2);
+        DUE.is("begin()", x.begin(), 3);
+        DUE.is("begin()", x.begin(), 4);
+        DUE.is("read(4, 2)", x.read(4, 2), 0);
+        DUE.is("write(3, 2, 3)", x.write(3, 2, 3), 1);
     }
 }
