@@ -216,7 +216,7 @@ public final class LogStore {
             case 3:
                 return pool.written;
             default:
-                return REFUSED;
+                return NOT_THERE;
         }
     }
 
@@ -232,7 +232,7 @@ public final class LogStore {
             case 2:
                 return pool.disk[page].lsn;
             default:
-                return REFUSED;
+                return NOT_THERE;
         }
     }
 

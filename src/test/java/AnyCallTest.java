@@ -8,28 +8,23 @@ public final class AnyCallTest {
     private static final int[] ODD = {Integer.MIN_VALUE, Integer.MIN_VALUE + 1, -101, -100, -1, 0,
         1, 2, 3, 4, 5, 6, 23, 24, 59, 60, 61, 99, 100, 101, Integer.MAX_VALUE - 1,
         Integer.MAX_VALUE};
-    private static long seed;
+    private static Numbers numbers;
 
     public static void main(String[] args) {
         long sum = 0;
         for (int run = 1; run <= RUNS; run++) {
-            seed = run;
+            numbers = new Numbers(run);
             LogStore x = new LogStore();
             for (int call = 0; call < CALLS; call++) {
-                sum += call(x, pick(19), number(), number(), number());
+                sum += call(x, numbers.pick(19), number(), number(), number());
             }
         }
         System.out.println("AnyCallTest: " + RUNS * CALLS + " calls answered, sum " + sum);
     }
 
-    private static int pick(int bound) {
-        seed = seed * 6364136223846793005L + 1442695040888963407L;
-        return (int) ((seed >>> 33) % bound);
-    }
-
     private static int number() {
-        int kind = pick(8);
-        return kind == 0 ? ODD[pick(ODD.length)] : kind < 6 ? pick(7) : pick(64);
+        int kind = numbers.pick(8);
+        return kind == 0 ? numbers.pickOf(ODD) : kind < 6 ? numbers.pick(7) : numbers.pick(64);
     }
 
     private static long call(LogStore x, int kind, int a, int b, int c) {
@@ -42,7 +37,7 @@ public final class AnyCallTest {
             case 5: return x.force() ? 1 : 0;
             case 6: return x.checkpoint();
             case 7: return x.flush(a) ? 1 : 0;
-            case 8: return pick(20) == 0 ? x.crash(a) : 0;
+            case 8: return numbers.pick(20) == 0 ? x.crash(a) : 0;
             case 9: return x.restart(a);
             case 10: return x.up() ? 1 : 0;
             case 11: return x.state(a);

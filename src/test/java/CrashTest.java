@@ -27,18 +27,9 @@ public final class CrashTest {
         DUE.end();
     }
 
-    private static LogStore withKeys(int number) {
-        LogStore x = new LogStore();
-        x.begin();
-        for (int key = 0; key < number; key++) {
-            x.write(1, key, key + 100);
-        }
-        return x;
-    }
-
     private static void crashKeepsSoMuch() {
         DUE.promise("10 crash");
-        LogStore x = withKeys(4);
+        LogStore x = Stores.withKeys(4);
         x.flush(0);
         x.write(1, 0, 1);
         x.write(1, 1, 1);
@@ -48,11 +39,11 @@ public final class CrashTest {
         DUE.is("count(1)", x.count(1), 6);
         DUE.is("up()", x.up(), false);
         DUE.is("crash(5), no more are there", x.crash(5), 6);
-        x = withKeys(3);
+        x = Stores.withKeys(3);
         DUE.is("crash(0)", x.crash(0), 0);
-        x = withKeys(3);
+        x = Stores.withKeys(3);
         DUE.is("crash(3)", x.crash(3), 3);
-        x = withKeys(3);
+        x = Stores.withKeys(3);
         x.force();
         x.write(1, 5, 5);
         DUE.is("crash(MAX)", x.crash(Integer.MAX_VALUE), 4);
@@ -61,7 +52,7 @@ public final class CrashTest {
 
     private static void crashIsRefused() {
         DUE.promise("10 crash, refused");
-        LogStore x = withKeys(3);
+        LogStore x = Stores.withKeys(3);
         DUE.is("crash(-1)", x.crash(-1), -1);
         DUE.is("crash(MIN)", x.crash(Integer.MIN_VALUE), -1);
         DUE.is("up()", x.up(), true);
@@ -82,7 +73,7 @@ public final class CrashTest {
 
     private static void crashEmptiesPoolAndLocks() {
         DUE.promise("10 crash, pool and locks");
-        LogStore x = withKeys(5);
+        LogStore x = Stores.withKeys(5);
         x.commit(1);
         x.force();
         x.begin();
@@ -104,7 +95,7 @@ public final class CrashTest {
 
     private static void restartIsRefused() {
         DUE.promise("11 restart, refused");
-        LogStore x = withKeys(2);
+        LogStore x = Stores.withKeys(2);
         DUE.is("restart(1) while up", x.restart(1), -1);
         x.crash(2);
         for (int n : new int[] {0, -1, 101, Integer.MIN_VALUE, Integer.MAX_VALUE}) {
@@ -133,7 +124,7 @@ public final class CrashTest {
 
     private static void unitsAreCounted() {
         DUE.promise("11 restart, unit by unit");
-        LogStore x = withKeys(2);
+        LogStore x = Stores.withKeys(2);
         x.crash(2);
         int[] records = {2, 2, 2, 3, 4};
         for (int unit = 1; unit <= 5; unit++) {
@@ -151,7 +142,7 @@ public final class CrashTest {
 
     private static void commitDecidesDoubt() {
         DUE.promise("11 restart, in doubt");
-        LogStore x = withKeys(2);
+        LogStore x = Stores.withKeys(2);
         x.begin();
         x.write(2, 5, 50);
         x.commit(2);
@@ -170,7 +161,7 @@ public final class CrashTest {
 
     private static void checkpointNamesDirtyPages() {
         DUE.promise("11 restart, from the checkpoint's least REC");
-        LogStore x = withKeys(9);
+        LogStore x = Stores.withKeys(9);
         x.flush(0);
         x.checkpoint();
         x.write(1, 4, 1);
@@ -193,7 +184,7 @@ public final class CrashTest {
 
     private static void checkpointOfCleanPages() {
         DUE.promise("11 restart, a checkpoint without dirty pages");
-        LogStore x = withKeys(5);
+        LogStore x = Stores.withKeys(5);
         x.checkpoint();
         x.flush(0);
         x.flush(1);
@@ -210,7 +201,7 @@ public final class CrashTest {
     /** Page 1 is dirty from record 5 on; page 0 was flushed between that and the checkpoint. */
     private static void pagesOutsideTheTableAreLeft() {
         DUE.promise("11 restart, a record of a page that is not in the table");
-        LogStore x = withKeys(5);
+        LogStore x = Stores.withKeys(5);
         x.write(1, 0, 1);
         x.flush(0);
         x.checkpoint();
@@ -220,7 +211,7 @@ public final class CrashTest {
         DUE.is("page(0, 0)", x.page(0, 0), -1);
         DUE.is("page(1, 0)", x.page(1, 0), 5);
         DUE.promise("11 restart, a record before its page's LSN in the table");
-        x = withKeys(5);
+        x = Stores.withKeys(5);
         x.write(1, 0, 1);
         x.flush(0);
         x.checkpoint();
@@ -232,7 +223,7 @@ public final class CrashTest {
         DUE.is("restart(1)", x.restart(1), 1);
         DUE.is("page(0, 0)", x.page(0, 0), 8);
         DUE.promise("11 restart, a record just before the checkpoint");
-        x = withKeys(1);
+        x = Stores.withKeys(1);
         x.flush(0);
         x.checkpoint();
         DUE.is("crash(9)", x.crash(9), 2);
@@ -242,7 +233,7 @@ public final class CrashTest {
 
     private static void lostCheckpointDoesNotCount() {
         DUE.promise("11 restart, a checkpoint that was lost");
-        LogStore x = withKeys(5);
+        LogStore x = Stores.withKeys(5);
         x.checkpoint();
         x.flush(0);
         x.commit(1);
@@ -259,7 +250,7 @@ public final class CrashTest {
 
     private static void redoStopsAtWhatThePageHas() {
         DUE.promise("11 restart, redo");
-        LogStore x = withKeys(1);
+        LogStore x = Stores.withKeys(1);
         x.write(1, 0, 1);
         x.flush(0);
         x.write(1, 0, 2);
@@ -282,7 +273,7 @@ public final class CrashTest {
 
     private static void redoRepeatsTakingBack() {
         DUE.promise("11 restart, redo of CLRs");
-        LogStore x = withKeys(2);
+        LogStore x = Stores.withKeys(2);
         x.commit(1);
         x.force();
         x.begin();
@@ -304,7 +295,7 @@ public final class CrashTest {
 
     private static void undoGoesDownOverAll() {
         DUE.promise("11 restart, undo");
-        LogStore x = withKeys(1);
+        LogStore x = Stores.withKeys(1);
         x.begin();
         x.begin();
         x.write(2, 1, 20);
@@ -332,7 +323,7 @@ public final class CrashTest {
 
     private static void lostClrsAreMadeAgain() {
         DUE.promise("11 restart, an abort whose CLRs were lost");
-        LogStore x = withKeys(3);
+        LogStore x = Stores.withKeys(3);
         x.abort(1);
         DUE.is("count(0)", x.count(0), 6);
         DUE.is("crash(4), one CLR is kept", x.crash(4), 4);
@@ -348,7 +339,7 @@ public final class CrashTest {
 
     private static void crashInTheUndo() {
         DUE.promise("10 crash in the undo");
-        LogStore x = withKeys(3);
+        LogStore x = Stores.withKeys(3);
         x.crash(3);
         DUE.is("restart(6), two were taken back", x.restart(6), 6);
         DUE.is("count(0)", x.count(0), 5);
@@ -368,7 +359,7 @@ public final class CrashTest {
 
     private static void crashInTheRedo() {
         DUE.promise("10 crash in the redo");
-        LogStore x = withKeys(6);
+        LogStore x = Stores.withKeys(6);
         x.commit(1);
         x.force();
         x.crash(0);
@@ -385,7 +376,7 @@ public final class CrashTest {
 
     private static void restartPutsPagesOut() {
         DUE.promise("11 restart, pages leave the pool");
-        LogStore x = withKeys(13);
+        LogStore x = Stores.withKeys(13);
         x.force();
         x.crash(0);
         DUE.is("count(3)", x.count(3), 1);
@@ -408,7 +399,7 @@ public final class CrashTest {
 
     private static void lsnsAreUsedAgain() {
         DUE.promise("10 crash, what is lost stays lost");
-        LogStore x = withKeys(2);
+        LogStore x = Stores.withKeys(2);
         x.commit(1);
         x.crash(1);
         DUE.is("restart(100)", x.restart(100), 3);
@@ -429,7 +420,7 @@ public final class CrashTest {
 
     private static void theLsnOfALostClrIsUsedAgain() {
         DUE.promise("10 crash, an UPDATE with the LSN of a CLR that was lost");
-        LogStore x = withKeys(1);
+        LogStore x = Stores.withKeys(1);
         x.commit(1);
         x.force();
         x.begin();

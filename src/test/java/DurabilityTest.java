@@ -12,7 +12,7 @@ public final class DurabilityTest {
     private static final int KEYS = 26;
     private static final Due DUE = new Due("DurabilityTest");
 
-    private long seed;
+    private Numbers numbers;
     private LogStore x;
     private int begun;
     private int calls;
@@ -30,13 +30,8 @@ public final class DurabilityTest {
         DUE.end();
     }
 
-    private int pick(int bound) {
-        seed = seed * 6364136223846793005L + 1442695040888963407L;
-        return (int) ((seed >>> 33) % bound);
-    }
-
     private void run(int number) {
-        seed = number * 104729L;
+        numbers = new Numbers(number);
         x = new LogStore();
         begun = 0;
         calls = 0;
@@ -47,7 +42,7 @@ public final class DurabilityTest {
         // What comes after the last of these takes far less than the 212 calls that are left.
         while (calls < 300) {
             step();
-            if (crashes < 3 && pick(60) == 0) {
+            if (crashes < 3 && numbers.pick(60) == 0) {
                 crashAndRestart();
                 crashes++;
             }
@@ -57,31 +52,31 @@ public final class DurabilityTest {
 
     private void step() {
         calls += 2;
-        int t = Math.max(1, begun - pick(5));
-        switch (pick(10)) {
+        int t = Math.max(1, begun - numbers.pick(5));
+        switch (numbers.pick(10)) {
             case 0: case 1:
                 begun = Math.max(begun, x.begin());
                 break;
             case 2:
-                x.read(t, pick(KEYS));
+                x.read(t, numbers.pick(KEYS));
                 break;
             case 3: case 4: case 5: case 6:
-                write(t, pick(KEYS), 1 + pick(1000));
+                write(t, numbers.pick(KEYS), 1 + numbers.pick(1000));
                 break;
             case 7:
                 x.commit(t);
                 break;
             case 8:
-                if (pick(3) == 0) {
+                if (numbers.pick(3) == 0) {
                     x.abort(t);
                 } else {
-                    x.flush(pick(6));
+                    x.flush(numbers.pick(6));
                 }
                 break;
             default:
-                if (pick(4) == 0) {
+                if (numbers.pick(4) == 0) {
                     x.checkpoint();
-                } else if (pick(2) == 0) {
+                } else if (numbers.pick(2) == 0) {
                     x.force();
                 }
                 break;
@@ -98,7 +93,7 @@ public final class DurabilityTest {
         }
     }
 
-    /** A write that waited counts once it was done; a transaction's writes count once it committed. */
+    /** A write that waited counts once it was done, a transaction's writes once it committed. */
     private void note() {
         for (int t : new ArrayList<>(asked.keySet())) {
             calls++;
@@ -125,10 +120,10 @@ public final class DurabilityTest {
     }
 
     private void crashAndRestart() {
-        x.crash(pick(2) == 0 ? 0 : pick(10));
-        if (pick(2) == 0) {
-            x.restart(1 + pick(30));
-            x.crash(pick(4));
+        x.crash(numbers.pick(2) == 0 ? 0 : numbers.pick(10));
+        if (numbers.pick(2) == 0) {
+            x.restart(1 + numbers.pick(30));
+            x.crash(numbers.pick(4));
         }
         for (int i = 0; i < 5 && !x.up(); i++) {
             x.restart(100);

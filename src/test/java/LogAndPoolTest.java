@@ -1,4 +1,4 @@
-/** Promises 7, 8, 9, 19 and 20: force, checkpoint, flush, count, page; with the pool behind them. */
+/** Promises 7, 8, 9, 19 and 20: force, checkpoint, flush, count, page; with the pool. */
 public final class LogAndPoolTest {
     private static final Due DUE = new Due("LogAndPoolTest");
 
@@ -18,19 +18,9 @@ public final class LogAndPoolTest {
         DUE.end();
     }
 
-    /** Transaction 1 wrote keys 0 .. number - 1, each to the place of its number. */
-    private static LogStore withKeys(int number) {
-        LogStore x = new LogStore();
-        x.begin();
-        for (int key = 0; key < number; key++) {
-            x.write(1, key, key + 100);
-        }
-        return x;
-    }
-
     private static void forceMakesAllStable() {
         DUE.promise("7 force");
-        LogStore x = withKeys(2);
+        LogStore x = Stores.withKeys(2);
         DUE.is("count(1)", x.count(1), 0);
         DUE.is("force()", x.force(), true);
         DUE.is("count(1)", x.count(1), 2);
@@ -85,7 +75,7 @@ public final class LogAndPoolTest {
 
     private static void flushWritesADirtyPage() {
         DUE.promise("9 flush");
-        LogStore x = withKeys(6);
+        LogStore x = Stores.withKeys(6);
         x.write(1, 0, 7);
         DUE.is("flush(1)", x.flush(1), true);
         DUE.is("count(1), up to the page's LSN", x.count(1), 6);
@@ -108,7 +98,7 @@ public final class LogAndPoolTest {
 
     private static void flushIsRefused() {
         DUE.promise("9 flush, refused");
-        LogStore x = withKeys(13);
+        LogStore x = Stores.withKeys(13);
         DUE.is("flush(0), which left the pool", x.flush(0), false);
         for (int page : new int[] {-1, 4, 5, 6, Integer.MIN_VALUE, Integer.MAX_VALUE}) {
             DUE.is("flush(" + page + ")", x.flush(page), false);
@@ -121,7 +111,7 @@ public final class LogAndPoolTest {
         DUE.is("flush(2) while down", x.flush(2), false);
         x.restart(100);
         DUE.is("up()", x.up(), true);
-        x = withKeys(1);
+        x = Stores.withKeys(1);
         x.crash(1);
         x.restart(2);
         DUE.is("page(0, 0), dirty in the restart", x.page(0, 0), 1);
@@ -131,7 +121,7 @@ public final class LogAndPoolTest {
 
     private static void countAnswersFourThings() {
         DUE.promise("19 count");
-        LogStore x = withKeys(17);
+        LogStore x = Stores.withKeys(17);
         DUE.is("count(0)", x.count(0), 17);
         DUE.is("count(1), pages 0 and 1 were written", x.count(1), 8);
         DUE.is("count(2)", x.count(2), 5);
@@ -153,7 +143,7 @@ public final class LogAndPoolTest {
 
     private static void pageAnswersThreeThings() {
         DUE.promise("20 page");
-        LogStore x = withKeys(5);
+        LogStore x = Stores.withKeys(5);
         x.write(1, 1, 1);
         DUE.is("page(0, 0)", x.page(0, 0), 1);
         DUE.is("page(0, 1)", x.page(0, 1), 6);
@@ -186,7 +176,7 @@ public final class LogAndPoolTest {
 
     private static void poolPutsTheOldestOut() {
         DUE.promise("20 page, the oldest leaves");
-        LogStore x = withKeys(12);
+        LogStore x = Stores.withKeys(12);
         DUE.is("count(3)", x.count(3), 0);
         for (int page = 0; page <= 2; page++) {
             DUE.is("page(" + page + ", 0)", x.page(page, 0), 4 * page + 1);
@@ -204,7 +194,7 @@ public final class LogAndPoolTest {
 
     private static void aFetchMakesYoungAgain() {
         DUE.promise("20 page, a page that is fetched again");
-        LogStore x = withKeys(12);
+        LogStore x = Stores.withKeys(12);
         DUE.is("read(1, 0)", x.read(1, 0), 0);
         x.write(1, 12, 1);
         DUE.is("page(1, 0), oldest now", x.page(1, 0), -1);
@@ -221,7 +211,7 @@ public final class LogAndPoolTest {
 
     private static void cleanPagesLeaveUnwritten() {
         DUE.promise("19 count, clean pages are not written");
-        LogStore x = withKeys(12);
+        LogStore x = Stores.withKeys(12);
         x.flush(0);
         DUE.is("count(3)", x.count(3), 1);
         x.write(1, 12, 1);
@@ -232,7 +222,7 @@ public final class LogAndPoolTest {
 
     private static void onlySoMuchOfTheLogIsStable() {
         DUE.promise("19 count, stable up to the page's LSN");
-        LogStore x = withKeys(4);
+        LogStore x = Stores.withKeys(4);
         x.force();
         x.write(1, 4, 1);
         x.write(1, 5, 1);
@@ -248,7 +238,7 @@ public final class LogAndPoolTest {
 
     private static void abortFetchesPages() {
         DUE.promise("6 abort, the greatest LSN first");
-        LogStore x = withKeys(13);
+        LogStore x = Stores.withKeys(13);
         DUE.is("abort(1)", x.abort(1), true);
         DUE.is("count(0)", x.count(0), 26);
         DUE.is("count(2), page 0 came back", x.count(2), 5);

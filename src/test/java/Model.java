@@ -433,7 +433,11 @@ final class Model {
             return -1;
         }
         Map<Integer, Integer> dirty = new TreeMap<>();
-        pool.stream().filter(one -> one.rec() != 0).forEach(one -> dirty.put(one.page(), one.rec()));
+        for (Pooled one : pool) {
+            if (one.rec() != 0) {
+                dirty.put(one.page(), one.rec());
+            }
+        }
         return put(new Checkpoint(dirty));
     }
 

@@ -12,7 +12,7 @@ public final class ModelTest {
         "checkpoint", "flush", "crash", "restart", "up", "state", "outcome", "value", "stored",
         "place", "after", "count", "page"};
 
-    private long seed;
+    private Numbers numbers;
     private LogStore store;
     private Model model;
     private int keys;
@@ -38,14 +38,8 @@ public final class ModelTest {
         System.out.println("ModelTest: " + RUNS + " runs are as the model's");
     }
 
-    private int pick(int bound) {
-        seed = seed * 6364136223846793005L + 1442695040888963407L;
-        return (int) ((seed >>> 33) % bound);
-    }
-
     private boolean runIsSame(int run) {
-        seed = run * 7919L;
-        pick(2);
+        numbers = new Numbers(run);
         store = new LogStore();
         model = new Model();
         told.clear();
@@ -60,18 +54,18 @@ public final class ModelTest {
 
     /** Each run has its own mix, so that limits, crowds and crashes all come up often. */
     private void mix() {
-        keys = new int[] {2, 4, 9, 30, 100}[pick(5)];
+        keys = numbers.pickOf(2, 4, 9, 30, 100);
         weights = new int[NAMES.length];
         for (int kind = 0; kind < weights.length; kind++) {
-            weights[kind] = kind < 10 ? 2 + pick(20) : 4;
+            weights[kind] = kind < 10 ? 2 + numbers.pick(20) : 4;
         }
         weights[0] += 12;
         weights[1] += 10;
-        weights[2] += 10 + pick(40);
-        weights[4] = pick(8);
-        weights[5] = pick(12);
-        weights[6] = pick(3) == 0 ? 12 : 2;
-        weights[8] = pick(3) == 0 ? 12 : 2;
+        weights[2] += 10 + numbers.pick(40);
+        weights[4] = numbers.pick(8);
+        weights[5] = numbers.pick(12);
+        weights[6] = numbers.pick(3) == 0 ? 12 : 2;
+        weights[8] = numbers.pick(3) == 0 ? 12 : 2;
     }
 
     private int pickKind() {
@@ -79,7 +73,7 @@ public final class ModelTest {
         for (int weight : weights) {
             sum += weight;
         }
-        int left = pick(sum);
+        int left = numbers.pick(sum);
         int kind = 0;
         while (left >= weights[kind]) {
             left -= weights[kind];
@@ -90,8 +84,8 @@ public final class ModelTest {
 
     /** Mostly a transaction that may be live, now and then any number. */
     private int pickTransaction() {
-        if (pick(30) == 0) {
-            return new int[] {0, -1, 61, Integer.MIN_VALUE, Integer.MAX_VALUE}[pick(5)];
+        if (numbers.pick(30) == 0) {
+            return numbers.pickOf(0, -1, 61, Integer.MIN_VALUE, Integer.MAX_VALUE);
         }
         List<Integer> live = new ArrayList<>();
         int begun = 0;
@@ -101,28 +95,28 @@ public final class ModelTest {
                 live.add(begun);
             }
         }
-        return live.isEmpty() || pick(8) == 0 ? pick(begun + 2) : live.get(pick(live.size()));
+        return live.isEmpty() || numbers.pick(8) == 0 ? numbers.pick(begun + 2) : live.get(numbers.pick(live.size()));
     }
 
     private int pickKey() {
-        if (pick(40) == 0) {
-            return new int[] {-1, 100, 99, -2, Integer.MIN_VALUE, Integer.MAX_VALUE}[pick(6)];
+        if (numbers.pick(40) == 0) {
+            return numbers.pickOf(-1, 100, 99, -2, Integer.MIN_VALUE, Integer.MAX_VALUE);
         }
-        return pick(keys);
+        return numbers.pick(keys);
     }
 
     private int pickUnits() {
-        if (pick(12) == 0) {
-            return new int[] {0, -1, 101, Integer.MIN_VALUE, Integer.MAX_VALUE}[pick(5)];
+        if (numbers.pick(12) == 0) {
+            return numbers.pickOf(0, -1, 101, Integer.MIN_VALUE, Integer.MAX_VALUE);
         }
-        return pick(3) == 0 ? 1 + pick(100) : 1 + pick(9);
+        return numbers.pick(3) == 0 ? 1 + numbers.pick(100) : 1 + numbers.pick(9);
     }
 
     private int pickStable() {
-        if (pick(12) == 0) {
-            return new int[] {-1, Integer.MIN_VALUE, Integer.MAX_VALUE}[pick(3)];
+        if (numbers.pick(12) == 0) {
+            return numbers.pickOf(-1, Integer.MIN_VALUE, Integer.MAX_VALUE);
         }
-        return pick(12);
+        return numbers.pick(12);
     }
 
     private boolean callIsSame() {
@@ -133,7 +127,7 @@ public final class ModelTest {
             case "begin": return same(kind, store.begin(), model.begin());
             case "read": return same(kind, store.read(t, key), model.read(t, key), t, key);
             case "write": {
-                int value = pick(5) - 1;
+                int value = numbers.pick(5) - 1;
                 return same(kind, store.write(t, key, value), model.write(t, key, value),
                         t, key, value);
             }
@@ -142,7 +136,7 @@ public final class ModelTest {
             case "force": return same(kind, store.force(), model.force());
             case "checkpoint": return same(kind, store.checkpoint(), model.checkpoint());
             case "flush": {
-                int page = pick(8) - 1;
+                int page = numbers.pick(8) - 1;
                 return same(kind, store.flush(page), model.flush(page), page);
             }
             case "crash": {
@@ -158,7 +152,7 @@ public final class ModelTest {
     }
 
     private boolean lookIsSame(int kind, int t, int key) {
-        int what = pick(6) - 1;
+        int what = numbers.pick(6) - 1;
         switch (NAMES[kind]) {
             case "up": return same(kind, store.up(), model.up());
             case "state": return same(kind, store.state(t), model.state(t), t);
@@ -169,7 +163,7 @@ public final class ModelTest {
             case "after": return same(kind, store.after(key), model.after(key), key);
             case "count": return same(kind, store.count(what), model.count(what), what);
             default: {
-                int page = pick(8) - 1;
+                int page = numbers.pick(8) - 1;
                 return same(kind, store.page(page, what), model.page(page, what), page, what);
             }
         }

@@ -25,17 +25,9 @@ public final class RequestsTest {
         DUE.end();
     }
 
-    private static LogStore withTransactions(int number) {
-        LogStore x = new LogStore();
-        for (int t = 1; t <= number; t++) {
-            x.begin();
-        }
-        return x;
-    }
-
     private static void readsAndValues() {
         DUE.promise("3 read, 14 outcome, 15 value");
-        LogStore x = withTransactions(2);
+        LogStore x = Stores.withTransactions(2);
         DUE.is("outcome(1), none yet", x.outcome(1), -1);
         DUE.is("value(1), none yet", x.value(1), 0);
         DUE.is("read(1, 0) without a place", x.read(1, 0), 0);
@@ -73,7 +65,7 @@ public final class RequestsTest {
 
     private static void requestsAreRefused() {
         DUE.promise("3 read and 4 write, refused");
-        LogStore x = withTransactions(3);
+        LogStore x = Stores.withTransactions(3);
         for (int t : new int[] {0, -1, 4, 60, 61, Integer.MIN_VALUE, Integer.MAX_VALUE}) {
             DUE.is("read(" + t + ", 1)", x.read(t, 1), -1);
             DUE.is("write(" + t + ", 1, 1)", x.write(t, 1, 1), -1);
@@ -107,7 +99,7 @@ public final class RequestsTest {
 
     private static void writesTakePlaces() {
         DUE.promise("4 write");
-        LogStore x = withTransactions(1);
+        LogStore x = Stores.withTransactions(1);
         DUE.is("write(1, 50, 1)", x.write(1, 50, 1), 0);
         DUE.is("write(1, 0, 2)", x.write(1, 0, 2), 0);
         DUE.is("write(1, 99, -3)", x.write(1, 99, -3), 0);
@@ -126,7 +118,7 @@ public final class RequestsTest {
 
     private static void sharedLocks() {
         DUE.promise("3 read, shared locks");
-        LogStore x = withTransactions(4);
+        LogStore x = Stores.withTransactions(4);
         DUE.is("read(1, 1)", x.read(1, 1), 0);
         DUE.is("read(2, 1)", x.read(2, 1), 0);
         DUE.is("write(3, 1, 3)", x.write(3, 1, 3), 1);
@@ -144,7 +136,7 @@ public final class RequestsTest {
 
     private static void ownLocks() {
         DUE.promise("4 write, own locks");
-        LogStore x = withTransactions(2);
+        LogStore x = Stores.withTransactions(2);
         DUE.is("read(1, 1)", x.read(1, 1), 0);
         DUE.is("read(1, 1) again", x.read(1, 1), 0);
         DUE.is("write(1, 1, 1), alone", x.write(1, 1, 1), 0);
@@ -157,7 +149,7 @@ public final class RequestsTest {
 
     private static void upgradeWaitsForOthersOnly() {
         DUE.promise("4 write after a read");
-        LogStore x = withTransactions(3);
+        LogStore x = Stores.withTransactions(3);
         x.read(1, 1);
         x.read(2, 1);
         DUE.is("write(1, 1, 1), another reads", x.write(1, 1, 1), 1);
@@ -172,7 +164,7 @@ public final class RequestsTest {
 
     private static void upgradeGoesPastEarlierRequests() {
         DUE.promise("4 write after a read, past requests");
-        LogStore x = withTransactions(3);
+        LogStore x = Stores.withTransactions(3);
         x.read(1, 1);
         DUE.is("write(2, 1, 2)", x.write(2, 1, 2), 1);
         DUE.is("write(1, 1, 1), an earlier request waits", x.write(1, 1, 1), 0);
@@ -184,7 +176,7 @@ public final class RequestsTest {
 
     private static void laterRequestsStayBehind() {
         DUE.promise("3 read behind an earlier request");
-        LogStore x = withTransactions(4);
+        LogStore x = Stores.withTransactions(4);
         x.read(1, 1);
         DUE.is("write(2, 1, 2)", x.write(2, 1, 2), 1);
         DUE.is("read(3, 1), no conflict but behind", x.read(3, 1), 1);
@@ -204,7 +196,7 @@ public final class RequestsTest {
 
     private static void firstMadeIsGrantedFirst() {
         DUE.promise("settling, the first made first");
-        LogStore x = withTransactions(4);
+        LogStore x = Stores.withTransactions(4);
         x.write(1, 1, 1);
         x.write(1, 2, 1);
         x.write(1, 3, 1);
@@ -219,7 +211,7 @@ public final class RequestsTest {
 
     private static void victimOfTwo() {
         DUE.promise("4 write, victim");
-        LogStore x = withTransactions(2);
+        LogStore x = Stores.withTransactions(2);
         x.write(1, 1, 1);
         x.write(2, 2, 2);
         DUE.is("read(1, 2)", x.read(1, 2), 1);
@@ -233,7 +225,7 @@ public final class RequestsTest {
         DUE.is("value(1)", x.value(1), 0);
         DUE.is("count(0)", x.count(0), 3);
         DUE.promise("3 read, victim");
-        x = withTransactions(2);
+        x = Stores.withTransactions(2);
         x.write(1, 1, 1);
         x.write(2, 2, 2);
         DUE.is("write(2, 1, 5)", x.write(2, 1, 5), 1);
@@ -245,7 +237,7 @@ public final class RequestsTest {
 
     private static void victimOfTwoUpgrades() {
         DUE.promise("4 write, two readers that write");
-        LogStore x = withTransactions(2);
+        LogStore x = Stores.withTransactions(2);
         x.read(1, 1);
         x.read(2, 1);
         DUE.is("write(2, 1, 2)", x.write(2, 1, 2), 1);
@@ -257,7 +249,7 @@ public final class RequestsTest {
 
     private static void victimByARequestThatIsOnlyEarlier() {
         DUE.promise("3 read, victim by waiting for an earlier request");
-        LogStore x = withTransactions(3);
+        LogStore x = Stores.withTransactions(3);
         x.read(1, 1);
         x.write(3, 2, 3);
         DUE.is("write(2, 2, 2) waits for 3", x.write(2, 2, 2), 1);
@@ -273,7 +265,7 @@ public final class RequestsTest {
 
     private static void victimOfFour() {
         DUE.promise("4 write, victim in a circle of four");
-        LogStore x = withTransactions(4);
+        LogStore x = Stores.withTransactions(4);
         for (int t = 1; t <= 4; t++) {
             x.write(t, t, t);
         }
@@ -292,7 +284,7 @@ public final class RequestsTest {
 
     private static void noVictimWithoutACircle() {
         DUE.promise("4 write, no circle through it");
-        LogStore x = withTransactions(4);
+        LogStore x = Stores.withTransactions(4);
         x.write(1, 1, 1);
         x.write(2, 2, 2);
         DUE.is("write(2, 1, 2)", x.write(2, 1, 2), 1);
@@ -306,7 +298,7 @@ public final class RequestsTest {
 
     private static void noRoomForKeys() {
         DUE.promise("4 write, no room for a 25th key");
-        LogStore x = withTransactions(2);
+        LogStore x = Stores.withTransactions(2);
         for (int key = 0; key < 24; key++) {
             DUE.is("write(1, " + key + ", 1)", x.write(1, key, 1), 0);
             DUE.is("place(" + key + ")", x.place(key), key);
@@ -330,7 +322,7 @@ public final class RequestsTest {
 
     private static void noRoomForUpdates() {
         DUE.promise("4 write, no room for a 61st UPDATE");
-        LogStore x = withTransactions(2);
+        LogStore x = Stores.withTransactions(2);
         for (int i = 1; i <= 60; i++) {
             DUE.is("write(1, 1, " + i + ")", x.write(1, 1, i), 0);
         }
@@ -353,7 +345,7 @@ public final class RequestsTest {
 
     private static void noRoomAfterAWait() {
         DUE.promise("14 outcome, no room after a wait");
-        LogStore x = withTransactions(3);
+        LogStore x = Stores.withTransactions(3);
         for (int key = 0; key < 24; key++) {
             x.write(1, key, 1);
         }
@@ -371,7 +363,7 @@ public final class RequestsTest {
     /** A write that is granted puts a page out; that makes a COMMIT stable, which frees a lock. */
     private static void commitByAnEvictionSettles() {
         DUE.promise("settling, a page that leaves makes a COMMIT stable");
-        LogStore x = withTransactions(4);
+        LogStore x = Stores.withTransactions(4);
         for (int key = 0; key < 12; key++) {
             x.write(1, key, 1);
         }
@@ -399,7 +391,7 @@ public final class RequestsTest {
 
     private static void locksEndWithTheirTransaction() {
         DUE.promise("6 abort, locks are gone for those that begin later");
-        LogStore x = withTransactions(1);
+        LogStore x = Stores.withTransactions(1);
         x.write(1, 1, 1);
         x.abort(1);
         x.begin();
@@ -407,7 +399,7 @@ public final class RequestsTest {
         DUE.is("write(3, 1, 3)", x.write(3, 1, 3), 0);
         DUE.is("write(2, 1, 2)", x.write(2, 1, 2), 1);
         DUE.promise("5 commit, likewise");
-        x = withTransactions(1);
+        x = Stores.withTransactions(1);
         x.write(1, 1, 1);
         x.read(1, 2);
         x.commit(1);
@@ -427,7 +419,7 @@ public final class RequestsTest {
         DUE.is("write(7, 2, 7)", x.write(7, 2, 7), 0);
         DUE.is("write(4, 1, 4), others read", x.write(4, 1, 4), 1);
         DUE.promise("4 write, victim, likewise");
-        x = withTransactions(2);
+        x = Stores.withTransactions(2);
         x.write(1, 1, 1);
         x.write(2, 2, 2);
         x.read(1, 2);
