@@ -95,7 +95,10 @@ public final class ModelTest {
                 live.add(begun);
             }
         }
-        return live.isEmpty() || numbers.pick(8) == 0 ? numbers.pick(begun + 2) : live.get(numbers.pick(live.size()));
+        if (live.isEmpty() || numbers.pick(8) == 0) {
+            return numbers.pick(begun + 2);
+        }
+        return live.get(numbers.pick(live.size()));
     }
 
     private int pickKey() {
