@@ -14,6 +14,16 @@ final class Due {
         promise = name;
     }
 
+    /** Likewise, by the document's words in "Terms" that they hold the program to. */
+    void sentence(String words) {
+        promise = "\"" + words + "\"";
+    }
+
+    /** Likewise, by the words of a promise. */
+    void sentence(int number, String words) {
+        promise = "promise " + number + " \"" + words + "\"";
+    }
+
     void is(String call, int got, int want) {
         compared++;
         if (got != want) {
