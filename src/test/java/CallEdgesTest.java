@@ -272,7 +272,9 @@ public final class CallEdgesTest {
         x.restart(1);
         DUE.is("checkpoint()", x.checkpoint(), 20);
         DUE.is("checkpoint()", x.checkpoint(), -1);
-        DUE.is("crash(20)", x.crash(20), 20);
+        x.begin();
+        x.commit(1);
+        DUE.is("crash(1), the COMMIT alone is lost", x.crash(1), 20);
         x.restart(1);
         DUE.is("checkpoint()", x.checkpoint(), -1);
     }

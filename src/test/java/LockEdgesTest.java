@@ -50,18 +50,21 @@ public final class LockEdgesTest {
         readFetchesThePage();
         readWithoutAPlace();
         sixtiethUpdate();
+        updatesThatWereLostDoNotCount();
         noRoomFetchesNothing();
         twentyFourthPlace();
         noRoomMakesASharedLockExclusive();
         leastFreePlace();
         sameValueIsWritten();
         abortGoesDown();
+        abortFetchesAPageThatLeft();
         abortWithoutUpdates();
         abortLeavesOthersUpdates();
         abortedRequestWaitsNoMore();
         abortedHoldsNoLocks();
         settlingGrantsAll();
         settlingCommitsBeforeItGrants();
+        settlingGrantsTheOneMadeFirst();
         settlingCommitsTheStableOnesOnly();
         settlingAfterARequest();
         DUE.end();
@@ -423,6 +426,19 @@ public final class LockEdgesTest {
         DUE.is("write(2, 51, 61), those taken back are in the log", x.write(2, 51, 61), 3);
     }
 
+    private static void updatesThatWereLostDoNotCount() {
+        DUE.sentence(NO_ROOM);
+        LogStore x = withUpdates(60);
+        DUE.is("count(1)", x.count(1), 12);
+        DUE.is("crash(47), one is lost", x.crash(47), 59);
+        x.restart(100);
+        DUE.is("restart(100)", x.restart(100), 19);
+        DUE.is("count(0), CLRs are no UPDATEs", x.count(0), 118);
+        x.begin();
+        DUE.is("write(2, 1, 60)", x.write(2, 1, 60), 0);
+        DUE.is("write(2, 1, 61)", x.write(2, 1, 61), 3);
+    }
+
     private static void noRoomFetchesNothing() {
         DUE.sentence(NO_ROOM);
         LogStore x = withUpdates(60);
@@ -500,6 +516,22 @@ public final class LockEdgesTest {
         DUE.is("page(0, 1), its first UPDATE last", x.page(0, 1), 12);
         DUE.is("page(1, 1)", x.page(1, 1), 11);
         DUE.is("count(0)", x.count(0), 12);
+    }
+
+    private static void abortFetchesAPageThatLeft() {
+        DUE.sentence("the page is fetched, a CLR is put into the log and applied.");
+        LogStore x = Stores.withTransactions(2);
+        x.write(1, 50, 1);
+        for (int key = 0; key < 12; key++) {
+            x.write(2, key, 2);
+        }
+        DUE.is("page(0, 0)", x.page(0, 0), -1);
+        x.abort(1);
+        DUE.is("page(0, 0)", x.page(0, 0), 14);
+        DUE.is("page(0, 1)", x.page(0, 1), 14);
+        DUE.is("page(1, 0), it had to leave", x.page(1, 0), -1);
+        DUE.is("place(50)", x.place(50), -1);
+        DUE.is("count(2)", x.count(2), 5);
     }
 
     private static void abortWithoutUpdates() {
@@ -588,6 +620,24 @@ public final class LockEdgesTest {
         DUE.is("place(10)", x.place(10), 1);
         DUE.is("state(3)", x.state(3), 1);
         DUE.is("state(4)", x.state(4), 1);
+    }
+
+    private static void settlingGrantsTheOneMadeFirst() {
+        DUE.sentence("the waiting requests that are fit: the one that was made first is granted, "
+            + "its transaction is active.");
+        LogStore x = Stores.withTransactions(4);
+        int[] order = {3, 4, 2};
+        for (int t : order) {
+            x.read(1, t);
+        }
+        for (int t : order) {
+            DUE.is("write(" + t + ", " + t + ", 1)", x.write(t, t, 1), 1);
+        }
+        x.abort(1);
+        for (int i = 0; i < 3; i++) {
+            DUE.is("place(" + order[i] + ")", x.place(order[i]), i);
+            DUE.is("state(" + order[i] + ")", x.state(order[i]), 1);
+        }
     }
 
     private static void settlingCommitsTheStableOnesOnly() {

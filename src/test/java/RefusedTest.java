@@ -255,6 +255,9 @@ public final class RefusedTest {
         }
         answers.add(x.begin());
         look(x, answers);
+        for (int i = 0; i < 8; i++) {
+            answers.add(x.crash(0));
+        }
         return answers;
     }
 

@@ -28,9 +28,11 @@ public final class RestartEdgesTest {
         someIsLost();
         allIsLost();
         poolIsEmptyAfterACrash();
+        noPageIsDirtyAfterACrash();
         locksAreEmptyAfterACrash();
         noRequestWaitsAfterACrash();
         liveOnesAreInDoubt();
+        nothingSettlesInACrash();
         noneIsLive();
         restartBeginsAnew();
         noCheckpoint();
@@ -115,6 +117,20 @@ public final class RestartEdgesTest {
         DUE.is("stored(4)", x.stored(4), 0);
     }
 
+    private static void noPageIsDirtyAfterACrash() {
+        DUE.sentence(EMPTY);
+        LogStore x = Stores.withKeys(1);
+        x.crash(0);
+        DUE.is("restart(9)", x.restart(9), 1);
+        DUE.is("flush(0)", x.flush(0), false);
+        DUE.is("checkpoint()", x.checkpoint(), 1);
+        DUE.is("crash(9)", x.crash(9), 1);
+        DUE.is("restart(9), the checkpoint names no page", x.restart(9), 1);
+        x.begin();
+        x.write(2, 7, 7);
+        DUE.is("page(0, 0), dirty since then", x.page(0, 0), 2);
+    }
+
     private static void locksAreEmptyAfterACrash() {
         DUE.sentence(EMPTY);
         LogStore x = Stores.withTransactions(4);
@@ -168,6 +184,23 @@ public final class RestartEdgesTest {
             DUE.is("state(" + t + ") after the crash", x.state(t), after[t - 1]);
         }
         DUE.is("state(7)", x.state(7), 0);
+    }
+
+    /** The crash itself makes the COMMIT stable, but 1 is not committed before the restart. */
+    private static void nothingSettlesInACrash() {
+        DUE.sentence(EMPTY);
+        LogStore x = Stores.withTransactions(2);
+        x.read(1, 1);
+        x.write(2, 1, 2);
+        x.commit(1);
+        DUE.is("crash(1)", x.crash(1), 1);
+        DUE.is("state(1)", x.state(1), 6);
+        DUE.is("state(2)", x.state(2), 6);
+        DUE.is("outcome(2), not granted", x.outcome(2), 1);
+        DUE.is("restart(9)", x.restart(9), 1);
+        DUE.is("state(1)", x.state(1), 4);
+        DUE.is("state(2)", x.state(2), 5);
+        DUE.is("outcome(2)", x.outcome(2), 1);
     }
 
     private static void noneIsLive() {

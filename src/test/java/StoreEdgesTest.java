@@ -36,6 +36,7 @@ public final class StoreEdgesTest {
         checkpointOfAFullPool();
         updateWithAClrIsNotOpen();
         updateWhoseClrWasLostIsOpen();
+        updateWithTheLsnOfALostClrIsOpen();
         updateWithACommitIsNotOpen();
         updateWhoseCommitWasLostIsOpen();
         updateWithTheCommitOfAnotherIsOpen();
@@ -292,6 +293,22 @@ public final class StoreEdgesTest {
         DUE.is("count(0)", x.count(0), 4);
         DUE.is("place(0)", x.place(0), -1);
         DUE.is("place(1)", x.place(1), -1);
+    }
+
+    private static void updateWithTheLsnOfALostClrIsOpen() {
+        DUE.sentence(OPEN);
+        LogStore x = Stores.withKeys(1);
+        x.abort(1);
+        DUE.is("count(0), the CLR is 2", x.count(0), 2);
+        DUE.is("crash(0)", x.crash(0), 0);
+        x.restart(1);
+        x.begin();
+        x.write(2, 1, 1);
+        x.write(2, 2, 2);
+        DUE.is("count(0), an UPDATE is 2", x.count(0), 2);
+        x.abort(2);
+        DUE.is("count(0)", x.count(0), 4);
+        DUE.is("place(2)", x.place(2), -1);
     }
 
     private static void updateWithACommitIsNotOpen() {
