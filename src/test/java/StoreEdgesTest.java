@@ -72,7 +72,7 @@ public final class StoreEdgesTest {
         }
         for (int key : new int[] {0, 99}) {
             DUE.is("read(1, " + key + ")", x.read(1, key), 0);
-            DUE.is("write(1, " + key + ", 5)", x.write(1, key, key + 5), 0);
+            DUE.is("write(1, " + key + ", ..)", x.write(1, key, key + 5), 0);
             DUE.is("stored(" + key + ")", x.stored(key), key + 5);
         }
         DUE.is("count(0)", x.count(0), 2);
@@ -279,7 +279,7 @@ public final class StoreEdgesTest {
         DUE.sentence(OPEN);
         LogStore x = Stores.withKeys(2);
         x.abort(1);
-        DUE.is("crash(2 + 2)", x.crash(4), 4);
+        DUE.is("crash(4)", x.crash(4), 4);
         DUE.is("restart(9), nothing to undo", x.restart(9), 5);
         DUE.is("count(0)", x.count(0), 4);
     }
@@ -288,7 +288,7 @@ public final class StoreEdgesTest {
         DUE.sentence(OPEN);
         LogStore x = Stores.withKeys(2);
         x.abort(1);
-        DUE.is("crash(2 + 1)", x.crash(3), 3);
+        DUE.is("crash(3)", x.crash(3), 3);
         DUE.is("restart(9), one to undo", x.restart(9), 5);
         DUE.is("count(0)", x.count(0), 4);
         DUE.is("place(0)", x.place(0), -1);
